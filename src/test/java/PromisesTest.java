@@ -29,6 +29,8 @@ public final class PromisesTest {
         run();
         minutes();
         limits();
+        endOfRun();
+        sixIrons();
         anvils();
         rules();
         margins();
@@ -320,6 +322,7 @@ public final class PromisesTest {
         due(22, "whereIn(0, 479)", x.whereIn(0, 479), 0);
         due(22, "whereIn(0, 480)", x.whereIn(0, 480), BAD_VALUE);
         due(22, "whereIn(0, -1)", x.whereIn(0, -1), BAD_VALUE);
+        due(23, "stepsAfter(0, 0)", x.stepsAfter(0, 0), 0);
         due(23, "stepsAfter(0, 4)", x.stepsAfter(0, 4), 0);
         due(23, "stepsAfter(0, 5)", x.stepsAfter(0, 5), 1);
         due(23, "stepsAfter(0, 480)", x.stepsAfter(0, 480), 1);
@@ -424,6 +427,63 @@ public final class PromisesTest {
         due(20, "finishOf(1)", u.finishOf(1), 4);
     }
 
+    private static void endOfRun() {
+        ForgeScheduler x = ForgeText.forge("iron a 1 1;step a 499 1;place 1 1500;set margin 0;");
+        due(19, "finish(): heated in 0 to 478, worked in 479", x.finish(), 480);
+        due(20, "finishOf(0)", x.finishOf(0), 480);
+        due(22, "whereIn(0, 479)", x.whereIn(0, 479), 10);
+        due(23, "stepsAfter(0, 479)", x.stepsAfter(0, 479), 0);
+        due(23, "stepsAfter(0, 480)", x.stepsAfter(0, 480), 1);
+        due(28, "placeMinutes(0)", x.placeMinutes(0), 479);
+        due(31, "bestFinish()", x.bestFinish(), 480);
+        due(36, "bestMargin()", x.bestMargin(), 0);
+        due(39, "finishAlone(0)", x.finishAlone(0), 480);
+        due(49, "firstWork(0)", x.firstWork(0), 479);
+        due(51, "ironOnAnvil(0, 479)", x.ironOnAnvil(0, 479), 0);
+        due(52, "finishedBy(479)", x.finishedBy(479), 0);
+        due(53, "idleMinutes()", x.idleMinutes(), 479);
+        due(55, "bestRule()", x.bestRule(), 0);
+        x.removeStep(0);
+        x.addStep(0, 499, 2);
+        due(19, "finish(): a minute is missing", x.finish(), NOT_FOUND);
+        due(27, "anvilMinutes(0)", x.anvilMinutes(0), 1);
+        due(24, "coldStops(0): the run is over", x.coldStops(0), 0);
+        x.removeStep(0);
+        x.addStep(0, 500, 1);
+        due(19, "finish(): a degree is missing", x.finish(), NOT_FOUND);
+        due(29, "hottest(0) is reached at the end", x.hottest(0), 500);
+        due(49, "firstWork(0)", x.firstWork(0), NOT_FOUND);
+        due(36, "bestMargin()", x.bestMargin(), NOT_FOUND);
+        due(25, "heats(0)", x.heats(0), 1);
+    }
+
+    private static void sixIrons() {
+        ForgeScheduler x = ForgeText.forge("iron a 1 1;iron b 1 1;iron c 1 1;iron d 1 1;iron e 1 1;iron f 1 1;step f 200 2;"
+            + "place 90 500;place 1 500;place 1 500;set margin 0;");
+        due(39, "finishAlone(5)", x.finishAlone(5), 5);
+        due(38, "finishWithoutIron(5)", x.finishWithoutIron(5), 0);
+        due(58, "criticalIrons()", x.criticalIrons(), 1 << 5);
+        due(24, "coldStops(5): 200 is enough, 199 is finished with 2 minutes", x.coldStops(5), 1);
+        due(19, "finish(): 200 in minute 2, 199 and 289 in 3, worked in 4", x.finish(), 5);
+        x.setPlace(0, 91, 500);
+        due(24, "coldStops(5): 202, 201", x.coldStops(5), 0);
+        x.removeStep(5);
+        x.addStep(5, 201, 2);
+        due(24, "coldStops(5): 201 is enough for 201", x.coldStops(5), 0);
+        due(19, "finish()", x.finish(), 4);
+        due(26, "fireMinutes(5)", x.fireMinutes(5), 2);
+        due(29, "hottest(5)", x.hottest(5), 202);
+        due(48, "rackMinutes(5)", x.rackMinutes(5), 0);
+        due(49, "firstWork(5)", x.firstWork(5), 2);
+        due(50, "ironInPlace(0, 1)", x.ironInPlace(0, 1), 5);
+        due(52, "finishedBy(3)", x.finishedBy(3), 5);
+        x.removeStep(5);
+        due(49, "firstWork(5) without steps", x.firstWork(5), NOT_FOUND);
+        due(26, "fireMinutes(5) without steps", x.fireMinutes(5), 0);
+        due(29, "hottest(5) without steps", x.hottest(5), 20);
+        due(21, "heatAfter(5, 480) without steps", x.heatAfter(5, 480), 20);
+    }
+
     private static void anvils() {
         ForgeScheduler x = ForgeText.forge("iron a 1 1;iron b 1 1;iron c 1 1;step a 100 5;step b 100 2;step c 100 3;"
             + "place 500 500;place 500 500;place 500 500;set margin 0;set anvils 2;");
@@ -435,6 +495,8 @@ public final class PromisesTest {
         due(27, "anvilMinutes(1)", x.anvilMinutes(1), 5);
         due(28, "placeMinutes(2)", x.placeMinutes(2), 3);
         due(51, "ironOnAnvil(1, 4)", x.ironOnAnvil(1, 4), 2);
+        due(50, "ironInPlace(1, 0)", x.ironInPlace(1, 0), 1);
+        due(50, "ironInPlace(2, 2)", x.ironInPlace(2, 2), 2);
         due(30, "lastIron() is the lower of two", x.lastIron(), 0);
         due(19, "finish()", x.finish(), 6);
         due(53, "idleMinutes()", x.idleMinutes(), 1);
@@ -602,6 +664,19 @@ public final class PromisesTest {
         y.removeStep(1);
         due(57, "leastRate(0) without work", y.leastRate(0), 20);
         due(58, "criticalIrons() without work", y.criticalIrons(), 0);
+        ForgeScheduler w = ForgeText.forge("iron a 1 1;step a 300 1;place 100 200;place 50 400;place 25 350;set margin 0;");
+        due(19, "finish() with place 0, which is too cold", w.finish(), NOT_FOUND);
+        due(37, "finishWithoutPlace(0) is with place 1", w.finishWithoutPlace(0), 7);
+        due(37, "finishWithoutPlace(1) is with place 0", w.finishWithoutPlace(1), NOT_FOUND);
+        ForgeScheduler v = ForgeText.forge("iron a 1 1;iron b 1 99;step a 200 5;step b 400 3;place 8 200;place 100 600;set margin 0;");
+        due(19, "finish(): b in place 1 is worked in 4, 6, 8 and a in 23, 25 .. 31", v.finish(), 32);
+        due(38, "finishWithoutIron(0): b is in place 0 then, which is too cold", v.finishWithoutIron(0), NOT_FOUND);
+        due(58, "criticalIrons(): not the one without which the run is not completed", v.criticalIrons(), 0);
+        ForgeScheduler u = ForgeText.forge("iron a 1 99;iron b 1 99;step a 100 5;step b 400 6;place 3 300;place 200 500;set margin 0;");
+        due(19, "finish(): a in place 0 is worked in 27, 55, 83, 111 and 139", u.finish(), 140);
+        due(57, "leastRate(0): with a faster place 0 b gets into it, and it is too cold", u.leastRate(0), NOT_FOUND);
+        ForgeScheduler t = ForgeText.forge("iron a 2 1;step a 1020 1;place 2000 1500;set margin 0;");
+        due(57, "leastRate(0): 1020 after one minute", t.leastRate(0), 2000);
         ForgeScheduler z = ForgeText.forge("iron a 1 99;step a 119 1;place 19 119;place 1 100;set margin 0;");
         due(57, "leastRate(0): 5 minutes with 20 and with 19 more", z.leastRate(0), 20);
         z.setPlace(0, 2000, 1000);
@@ -715,6 +790,7 @@ public final class PromisesTest {
         due(47, "undo() of swap", x.undo(), 0);
         due(47, "finish() is told anew after undo", x.finish(), 7);
         ForgeText.load(x, "iron a 1 1;");
+        due(3, "finish() is told anew after load", x.finish(), 0);
         due(47, "undo() after load", x.undo(), NOT_FOUND);
     }
 
