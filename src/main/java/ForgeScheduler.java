@@ -741,8 +741,9 @@ public final class ForgeScheduler {
         }
 
         private void beginStep(int iron) {
-            stepLeft[iron] = forge.minutesOfStep(iron, stepsDone[iron]);
-            heatNeeded[iron] = forge.heatOfStep(iron, stepsDone[iron]);
+            int index = iron * MAX_STEPS + stepsDone[iron];
+            stepLeft[iron] = forge.minutesOfSteps[index];
+            heatNeeded[iron] = forge.heatsOfSteps[index];
         }
 
         void clearAnvils() {
