@@ -545,6 +545,12 @@ public final class SentencesTest extends Sentences {
         due("once before each minute of work", ForgeText.forge(STOPS).heats(0), 5);
         row("once each", 0, ForgeText.forge(PAIR)::heats, 1, 1);
         row("once for the whole run, and without steps", 0, ForgeText.forge(COLD)::heats, 1, 0);
+        ForgeScheduler x = ForgeText.forge(STOPS);
+        due("five", x.heats(0), 5);
+        x.setPlace(0, 2000, 1500);
+        due("one, in the run of the hotter place", x.heats(0), 1);
+        x.undo();
+        due("five again", x.heats(0), 5);
         due("never, without a place", ForgeText.forge("iron a 1 1;step a 100 1;").heats(0), 0);
         says(NO_IRON);
         refusesIrons("heats", ForgeScheduler::heats);
@@ -648,6 +654,10 @@ public final class SentencesTest extends Sentences {
         says("Returns the number of orders; 0 if the run is completed with no order.");
         due("never hot enough", ForgeText.forge(COLD).bestOrders(), 0);
         due("too much work", ForgeText.forge(longWork()).bestOrders(), 0);
+        ForgeScheduler y = ForgeText.forge(TRIO);
+        due("all", y.bestOrders(), 6);
+        y.setSetting(MARGIN, 401);
+        due("none, with a MARGIN above the limit", y.bestOrders(), 0);
     }
 
     private static void finishWithSwap() {
@@ -762,6 +772,7 @@ public final class SentencesTest extends Sentences {
         row("of ROW", 0, ForgeText.forge(ROW)::finishAlone, 11, 12, 13);
         row("of PAIR", 0, ForgeText.forge(PAIR)::finishAlone, 5, 4);
         due("the whole run", ForgeText.forge(LATE).finishAlone(0), 480);
+        row("of six", 0, ForgeText.forge(SIX_IRONS + "step a 100 1;step f 100 2;place 500 500;")::finishAlone, 2, 0, 0, 0, 0, 3);
         says("Returns the number of minutes, 0 if it has no steps; NOT_FOUND if it would not be finished.");
         row("too cold, and without steps", 0, ForgeText.forge(COLD)::finishAlone, NOT_FOUND, 0);
         row("alone in place 0", 0, ForgeText.forge(TRAP)::finishAlone, NOT_FOUND, 2);
@@ -1023,6 +1034,8 @@ public final class SentencesTest extends Sentences {
         row("never hot enough, and without steps", 0, ForgeText.forge(COLD)::firstWork, NOT_FOUND, NOT_FOUND);
         due("hot enough after the run", ForgeText.forge(LATE.replace("499", "500")).firstWork(0), NOT_FOUND);
         due("worked, but never finished", ForgeText.forge(longWork()).firstWork(3), 451);
+        due("the last of six, without steps", ForgeText.forge(SIX_IRONS).firstWork(5), NOT_FOUND);
+        due("the last of six, never hot enough", ForgeText.forge(SIX_IRONS + "step f 1000 1;place 500 500;").firstWork(5), NOT_FOUND);
         says(NO_IRON);
         refusesIrons("firstWork", ForgeScheduler::firstWork);
     }
@@ -1039,6 +1052,11 @@ public final class SentencesTest extends Sentences {
         says("Returns the index of the iron; NOT_FOUND if there is none; BAD_VALUE if minute is out of range.");
         row("ironInPlace(2, minute)", 14, m -> ForgeText.forge(TRIO).ironInPlace(2, m), 2, NOT_FOUND);
         due("no irons", ForgeText.forge(THREE_PLACES).ironInPlace(2, 479), NOT_FOUND);
+        due("none of six", ForgeText.forge(SIX_IRONS + THREE_PLACES).ironInPlace(2, 479), NOT_FOUND);
+        ForgeScheduler y = ForgeText.forge(TRIO);
+        due("c", y.ironInPlace(2, 0), 2);
+        ForgeText.load(y, "iron a 1 1;step a 100 1;" + THREE_PLACES);
+        row("a alone, after another load", 0, p -> y.ironInPlace(p, 0), 0, NOT_FOUND, NOT_FOUND);
         badValues("ironInPlace(0, minute)", 0, 479, m -> x.ironInPlace(0, m));
         says(NO_PLACE_FIRST);
         refusesPlaces("ironInPlace(place, 0)", (f, p) -> f.ironInPlace(p, 0));
@@ -1059,6 +1077,7 @@ public final class SentencesTest extends Sentences {
         row("ironOnAnvil(1, minute)", 5, m -> ForgeText.forge(TRIO + "set anvils 2;").ironOnAnvil(1, m), 1, 2);
         row("ironOnAnvil(1, minute)", 12, m -> ForgeText.forge(TRIO + "set anvils 2;").ironOnAnvil(1, m), 2, NOT_FOUND);
         due("no irons", new ForgeScheduler().ironOnAnvil(0, 0), NOT_FOUND);
+        due("none of six", ForgeText.forge(SIX_IRONS + THREE_PLACES).ironOnAnvil(0, 479), NOT_FOUND);
         badValues("ironOnAnvil(0, minute)", 0, 479, m -> x.ironOnAnvil(0, m));
         says(NO_ANVIL + " (checked first)");
         refusesAnvils("ironOnAnvil(anvil, 0)", (f, a) -> f.ironOnAnvil(a, 0));
@@ -1094,6 +1113,11 @@ public final class SentencesTest extends Sentences {
         due("all but the last minute", ForgeText.forge(LATE).idleMinutes(), 479);
         due("too much work: 0 alone", ForgeText.forge(longWork()).idleMinutes(), 1);
         due("without work", ForgeText.forge(SIX_IRONS).idleMinutes(), 0);
+        due("one of six: 0 alone", ForgeText.forge(SIX_IRONS + "step f 100 9;" + THREE_PLACES).idleMinutes(), 1);
+        ForgeScheduler x = ForgeText.forge(TRIO + "set anvils 3;");
+        due("three anvils", x.idleMinutes(), 5);
+        ForgeText.load(x, "iron a 1 1;step a 100 9;set anvils 2;" + THREE_PLACES);
+        due("one iron on two anvils: 0 to 9", x.idleMinutes(), 10);
         due("without irons", new ForgeScheduler().idleMinutes(), 0);
     }
 
