@@ -1,8 +1,12 @@
+import java.io.IOException;
 import java.lang.reflect.Constructor;
 import java.lang.reflect.Field;
 import java.lang.reflect.Member;
 import java.lang.reflect.Method;
 import java.lang.reflect.Modifier;
+import java.nio.file.Files;
+import java.nio.file.Path;
+import java.util.ArrayList;
 import java.util.List;
 import java.util.Map;
 import java.util.Set;
@@ -11,6 +15,8 @@ import java.util.TreeSet;
 
 /** The public face is that of the document, with nothing more to be seen from outside. */
 public final class FaceTest {
+    private static final Path DOCUMENT = Path.of("..", "shared", "DOC.md");
+    private static final Path PROGRAM = Path.of("src", "main", "java", "ForgeScheduler.java");
     private static final Map<String, Integer> CONSTANTS = Map.ofEntries(Map.entry("ANVILS", 0), Map.entry("MARGIN", 1),
         Map.entry("RULE", 2), Map.entry("RACK", 0), Map.entry("NOT_FOUND", -1), Map.entry("BAD_VALUE", -2), Map.entry("FULL", -3),
         Map.entry("SYNTAX_ERROR", -11), Map.entry("RANGE_ERROR", -12), Map.entry("NAME_ERROR", -13),
@@ -34,6 +40,7 @@ public final class FaceTest {
         constructors();
         constants();
         methods();
+        declarations();
         System.out.println("FaceTest: " + (wrong == 0 ? "the face is that of the document" : wrong + " wrong"));
         if (wrong != 0) System.exit(1);
     }
@@ -80,5 +87,29 @@ public final class FaceTest {
         for (Method method : ForgeScheduler.class.getDeclaredMethods()) {
             if (!isSeen(method)) same("a private method named " + method.getName(), names.contains(method.getName()), false);
         }
+    }
+
+    /** Each line of the document's face stands in the class as it is written there, and each has its promise. */
+    private static void declarations() throws IOException {
+        if (!Files.isReadable(DOCUMENT)) {
+            System.out.println("the document is not at " + DOCUMENT + ", so its face is not compared");
+            return;
+        }
+        List<String> face = new ArrayList<>();
+        List<String> promised = new ArrayList<>();
+        boolean inFace = false;
+        for (String line : Files.readAllLines(DOCUMENT)) {
+            if (line.startsWith("```")) inFace = line.equals("```java");
+            else if (inFace) face.add(line.trim());
+            else if (line.startsWith("`")) promised.add("public " + line.replace("`", "") + ";");
+        }
+        List<String> written = new ArrayList<>();
+        for (String line : Files.readAllLines(PROGRAM)) {
+            if (line.contains("public ")) written.add(line.trim().replaceAll(" \\{$", line.contains("(") ? ";" : " {"));
+        }
+        face.remove("}");
+        same("the public declarations of the class", written, face);
+        same("the lines of the promises", promised, face.subList(face.indexOf("public ForgeScheduler();"), face.size()));
+        same("the number of promises", promised.size(), METHODS.size() + 1);
     }
 }
